@@ -122,7 +122,7 @@ public final class SecretSteps {
     }
 
     public int accepted() {
-        return flowNow().alarmAt(program, 0) == NONE ? 1 : 0;
+        return flowNow().accepts(program);
     }
 
     // ---- what is told
@@ -192,10 +192,12 @@ public final class SecretSteps {
             h = 31 * h + tally(what);
         }
         h = program.mixInto(h);
-        h = flowNow().mixInto(h, program.count);
-        h = 31 * h + accepted();
-        h = 31 * h + leak();
-        h = 31 * h + rows();
+        Flow lines = flowNow();
+        h = lines.mixInto(h, program.count);
+        h = 31 * h + lines.accepts(program);
+        Survey all = surveyNow();
+        h = 31 * h + all.other;
+        h = 31 * h + all.unlike;
         first.follow(program, 0);
         for (int what = 0; what < 3 + VARIABLES; what++) {
             h = 31 * h + first.outcome(what);
@@ -621,7 +623,7 @@ public final class SecretSteps {
     /** What the LINES tell: ahead of each LINE and of the end, what is TAINTED and what is KNOWN. */
     private static final class Flow {
         private static final int PLACES = MOST_LINES + 1;
-        /** A round that changes anything makes a place come to, a VARIABLE TAINTED or one not KNOWN, none of them back. */
+        /** Each round but the last makes a place come to, a VARIABLE TAINTED or one not KNOWN, and none of it goes back. */
         private static final int MOST_ROUNDS = PLACES * (1 + 2 * VARIABLES) + 1;
 
         private final boolean[] come = new boolean[PLACES];
@@ -685,7 +687,7 @@ public final class SecretSteps {
                     become(x, false, y);
                     break;
                 case MOVE:
-                    becomeAs(x, y);
+                    become(x, tainted(y), outKnowns[y]);
                     break;
                 case LOAD:
                     become(x, tainted(y), outKnowns[y] == NONE ? NONE : program.cells[outKnowns[y]]);
@@ -713,7 +715,8 @@ public final class SecretSteps {
         private void pick(int x, int y, int z) {
             int known = outKnowns[x];
             if (known != NONE) {
-                becomeAs(x, known != 0 ? y : z);
+                int picked = known != 0 ? y : z;
+                become(x, tainted(picked), outKnowns[picked]);
             } else if (outKnowns[y] != NONE && outKnowns[y] == outKnowns[z]) {
                 become(x, false, outKnowns[y]);
             } else {
@@ -723,10 +726,6 @@ public final class SecretSteps {
 
         private boolean tainted(int x) {
             return ((outTaints >> x) & 1) == 1;
-        }
-
-        private void becomeAs(int x, int y) {
-            become(x, tainted(y), outKnowns[y]);
         }
 
         private void become(int x, boolean taint, int known) {
@@ -782,6 +781,10 @@ public final class SecretSteps {
             return NONE;
         }
 
+        int accepts(Program program) {
+            return alarmAt(program, 0) == NONE ? 1 : 0;
+        }
+
         private boolean givesAlarm(Program program, int i) {
             if (!come[i]) {
                 return false;
@@ -825,7 +828,7 @@ public final class SecretSteps {
         private final int[] arguments = new int[MOST_ORDERS * MOST_ARGUMENTS];
         /** ORDERS that are ended. */
         private int orders;
-        /** Whether an ORDER is begun; how many numbers it has and how many figures the last of them, while it goes on. */
+        /** Whether an ORDER is begun; its numbers as yet; the figures of the number that may still go on. */
         private boolean open;
         private int numbers;
         private int figures;

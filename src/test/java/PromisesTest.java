@@ -217,6 +217,7 @@ public final class PromisesTest {
         due("7 BAD -1", x.run(-1, 0), BAD);
         due("7 BAD what", x.run(0, 9), BAD);
         due("7 BAD what -1", x.run(0, -1), BAD);
+        due("7 BAD counted", x.refused(0), 4);
         kindsInRuns();
         jumpsInRuns();
         cutRuns();
@@ -301,6 +302,7 @@ public final class PromisesTest {
         due("8 BAD i", x.sight(2, -1), BAD);
         due("8 BAD s", x.sight(16, 0), BAD);
         due("8 BAD s -1", x.sight(-1, 0), BAD);
+        due("8 BAD counted", x.refused(0), 3);
         SecretSteps most = program(0, l(LOAD, 1, 1, 0), l(JUMP, 0, 0, 0));
         most.start(0, 1);
         due("8 most sights", most.run(0, 2), 61);
@@ -322,6 +324,10 @@ public final class PromisesTest {
         due("9 BAD counted", x.refused(0), 4);
         SecretSteps y = program(2, l(LOAD, 0, 0, 0), l(DIVIDE, 1, 3, 0));
         due("9 at the divide", y.parts(2, 3), 1);
+        SecretSteps z = program(2, l(LOAD, 0, 1, 0), l(LOAD, 0, 2, 0));
+        due("9 at the first", z.parts(2, 3), 0);
+        SecretSteps end = program(2, l(PICK, 1, 1, 3), l(SET, 0, 7, 0));
+        due("9 no sight but the end", end.parts(0, 3), NONE);
     }
 
     // ---- 10, 11
@@ -368,6 +374,15 @@ public final class PromisesTest {
         due("10 late", x.leak(), 1);
         due("9 late", x.parts(0, 9), 45);
         due("11 late", x.rows(), 16);
+        SecretSteps y = program(32, l(LOAD, 1, 1, 0), l(LOAD, 3, 3, 0), l(LOAD, 3, 3, 0), l(JUMP, 1, 0, 0), l(LOAD, 2, 5, 0));
+        for (int i = 0; i < 16; i++) {
+            y.table(i, (i + 1) % 16);
+        }
+        // the TABLE counts: 1 becomes 3 .. 0 in 14 rounds of 4 sights
+        y.start(1, 2);
+        due("9 very late", y.parts(0, 9), 56);
+        due("10 very late", y.leak(), 1);
+        due("11 very late", y.rows(), 16);
     }
 
     // ---- 12, 13
@@ -385,6 +400,7 @@ public final class PromisesTest {
         due("12 BAD x -1", x.ahead(0, -1, 0), BAD);
         due("12 BAD what", x.ahead(0, 0, 2), BAD);
         due("12 BAD what -1", x.ahead(0, 0, -1), BAD);
+        due("12 BAD counted", x.refused(0), 6);
         kindsAhead();
         picksAhead();
         joinsAhead();
@@ -461,6 +477,31 @@ public final class PromisesTest {
         SecretSteps z = program(0, l(SET, 0, 1, 0), l(SET, 1, 1, 0), l(ADD, 0, 1, 0), l(JUMP, 2, 2, 0));
         due("12 a loop that counts is not known", z.ahead(2, 0, 1), NONE);
         due("12 but what does not change in it is", z.ahead(2, 1, 1), 1);
+        roundsAhead();
+    }
+
+    /** What becomes other only after LINES have been asked several times; what was so of an earlier program. */
+    private static void roundsAhead() {
+        SecretSteps x = program(0, l(SET, 0, 1, 0), l(SET, 1, 1, 0), l(MOVE, 4, 1, 0), l(MOVE, 1, 0, 0), l(ADD, 0, 0, 0), l(JUMP, 3, 2, 0));
+        due("12 not known, seen in the third round", x.ahead(3, 4, 1), NONE);
+        SecretSteps y = program(0, l(SET, 0, 1, 0), l(JUMP, 0, 3, 0), l(JUMP, 0, 20, 0), l(JUMP, 0, 2, 0));
+        due("12 the end by a jump back", y.ahead(4, 0, 1), 1);
+        SecretSteps z = program(1, l(MOVE, 1, 0, 0));
+        due("12 tainted by the secret one", z.ahead(1, 1, 0), 1);
+        z.secret(0, 0);
+        due("12 not by a public one", z.ahead(1, 1, 0), 0);
+        due("12 nor itself", z.ahead(1, 0, 0), 0);
+        z.secret(0, 1);
+        z.drops(0);
+        z.line(SET, 1, 4, 0);
+        due("12 set instead", z.ahead(1, 1, 0) * 100 + z.ahead(1, 1, 1), 4);
+        z.drops(0);
+        z.line(LOAD, 1, 1, 0);
+        z.line(SET, 2, 4, 0);
+        z.line(LOAD, 2, 2, 0);
+        due("12 by the TABLE", z.ahead(3, 2, 1), 4);
+        z.table(4, 11);
+        due("12 by the TABLE as it is then", z.ahead(3, 2, 1), 11);
     }
 
     private static void reached() {
@@ -477,6 +518,7 @@ public final class PromisesTest {
         }
         due("13 BAD", x.reached(6), BAD);
         due("13 BAD -1", x.reached(-1), BAD);
+        due("13 BAD counted", x.refused(0), 2);
         SecretSteps full = new SecretSteps();
         for (int i = 0; i < 20; i++) {
             full.line(SET, 0, 1, 0);
@@ -500,10 +542,14 @@ public final class PromisesTest {
         }
         due("14 far", x.alarm(Integer.MAX_VALUE), NONE);
         due("14 BAD", x.alarm(-1), BAD);
+        due("14 BAD counted", x.refused(0), 1);
         due("15 not", x.accepted(), 0);
         SecretSteps y = program(32, l(SET, 0, 1, 0), l(JUMP, 0, 3, 0), l(LOAD, 1, 5, 0));
         due("14 not come to", y.alarm(0), NONE);
         due("15 not come to", y.accepted(), 1);
+        due("14 divided by a tainted one", program(32, l(DIVIDE, 1, 5, 0)).alarm(0), 0);
+        due("14 a tainted one divided", program(32, l(DIVIDE, 5, 1, 0)).alarm(0), 0);
+        due("14 loaded into a tainted one", program(32, l(LOAD, 5, 1, 0)).alarm(0), NONE);
         SecretSteps z = program(32, l(ADD, 0, 5, 0), l(AND, 1, 5, 0), l(XOR, 2, 5, 0), l(MOVE, 3, 5, 0), l(PICK, 5, 1, 2), l(PICK, 4, 5, 5));
         due("14 none of the others", z.alarm(0), NONE);
         due("15 selections by a mask", z.accepted(), 1);
@@ -527,6 +573,7 @@ public final class PromisesTest {
         due("16 BAD i -1", x.of(-1, 0), BAD);
         due("16 BAD what", x.of(0, 4), BAD);
         due("16 BAD what -1", x.of(1, -1), BAD);
+        due("16 BAD counted", x.refused(0), 4);
     }
 
     private static void toldOfIt() {
@@ -579,6 +626,11 @@ public final class PromisesTest {
         due("20 text stays by back", x.refused(3), 32);
         due("20 blanks", told(x, "  l  07 1   20  0  ;  p0 1 ; "), 2);
         due("20 jump y", x.of(0, 2), 20);
+        due("20 a pick", told(x, "l8 1 2 3;l8 5 4 3;d2;"), 3);
+        for (int what = 0; what < 4; what++) {
+            due("20 of the pick " + what, x.of(1, what), what == 0 ? PICK : what);
+        }
+        due("20 the pick goes", x.back() * 10 + x.told(0), 11);
         faults(x);
         refusedOrders();
     }
@@ -678,6 +730,13 @@ public final class PromisesTest {
         due("21 leaks again", x.leak() * 100 + x.rows(), 116);
         due("21 alarm again", x.accepted(), 0);
         due("21 told again", x.told(0), 1);
+        x.start(1, 3);
+        x.back();
+        due("21 a change from there", x.start(2, 5), 0);
+        due("21 what was taken back stays so", x.told(3), 0);
+        due("21 orders refused", told(x, "v3 7;d9;"), -1001);
+        due("21 a change from there, too", x.table(0, 1), 0);
+        due("21 what was not done stays so", x.told(5), 0);
     }
 
     private static void refused() {
