@@ -7,6 +7,19 @@ public final class TermBoundariesTest extends BoundaryRows {
 
     // ---- variables, table, lines
 
+    private static void variables() {
+        says("Terms", "5, each PUBLIC or SECRET");
+        SecretSteps x = new SecretSteps();
+        int[] numbers = {-1, 0, 5, 6};
+        for (int v : numbers) {
+            int want = v == 0 || v == 5 ? 0 : BAD;
+            due("start(" + v + ", 1)", x.start(v, 1), want);
+            due("secret(" + v + ", 1)", x.secret(v, 1), want);
+            due("ahead(0, " + v + ", 0)", x.ahead(0, v, 0), want == BAD ? BAD : 1);
+        }
+        dueAll("STARTS, SECRET ones", new int[] {x.told(2), x.told(7), x.told(1)}, 1, 1, 33);
+    }
+
     private static void secretOnes() {
         says("Terms", "each PUBLIC or SECRET (PUBLIC at first; never more than 2 SECRET)");
         due("new: told(1)", new SecretSteps().told(1), 0);
@@ -288,6 +301,29 @@ public final class TermBoundariesTest extends BoundaryRows {
         due("PUBLIC again", x.run(0, 6), 9);
     }
 
+    private static void orderOfLines() {
+        says("Terms", "LINE 0 first, then the next one, or that of a JUMP;");
+        SecretSteps x = program(0, set(0, 3), l(ADD, 0, 0, 0), set(1, 9), l(ADD, 0, 1, 0));
+        due("each in its turn", x.run(0, 3), 15);
+        due("each once", x.run(0, 0), 4);
+        SecretSteps back = program(0, l(JUMP, 0, 2, 0), l(JUMP, 1, 3, 0), l(JUMP, 1, 1, 0), set(2, 5));
+        back.start(0, 1);
+        back.start(1, 1);
+        due("on, back, on: STEPS", back.run(0, 0), 4);
+        int[] sights = {501, 505, 503, 604, NONE};
+        for (int i = 0; i < sights.length; i++) {
+            due("on, back, on: SIGHT " + i, back.sight(0, i), sights[i]);
+        }
+        says("Terms", "SIGHTS, as they come:");
+        SecretSteps all = program(0, l(DIVIDE, 0, 0, 0), l(LOAD, 1, 0, 0), l(JUMP, 1, 4, 0), l(LOAD, 1, 2, 0), l(LOAD, 2, 2, 0), l(DIVIDE, 2, 1, 0));
+        // 0 by 0 is 15, place 15 has 15, LINE 3 is jumped over
+        int[] seen = {200, 115, 505, 100, 215, 605, NONE};
+        for (int i = 0; i < seen.length; i++) {
+            due("SIGHT " + i, all.sight(0, i), seen[i]);
+        }
+        due("SIGHTS", all.run(0, 2), 6);
+    }
+
     private static void endOfARun() {
         says("Terms", "it ends behind the last LINE (each LINE that is not there is behind it)");
         for (int count = 0; count <= 20; count += count == 2 ? 17 : 1) {
@@ -481,6 +517,29 @@ public final class TermBoundariesTest extends BoundaryRows {
         }
     }
 
+    private static void fromLineToLine() {
+        says("Terms", "From a LINE (that is come to) to each that may be next");
+        // LINES 2 to 4 would make VARIABLE 1 TAINTED and come to LINE 6 with 3 not KNOWN, but are not come to
+        SecretSteps x = program(32, set(0, 1), l(JUMP, 0, 5, 0), set(1, 3), l(MOVE, 1, 5, 0), l(JUMP, 2, 6, 0), set(3, 3), LOOKS_AT_NOTHING);
+        int[] want = {1, 1, 0, 0, 0, 1, 1, 1};
+        for (int i = 0; i < 8; i++) {
+            due("LINE " + i, x.reached(i), want[i]);
+        }
+        due("TAINTED by none", x.ahead(7, 1, 0), 0);
+        due("KNOWN by all", x.ahead(7, 3, 1), 3);
+        says("Terms", "VARIABLES are as they were, but x (of a JUMP: all as they were):");
+        for (int k = 0; k < 9; k++) {
+            // 0 is 10, 1 is 11, 2 is 12, 3 is 13; 4 is neither; 5 is TAINTED; x is 4, y is 1
+            SecretSteps y = program(32, set(0, 10), set(1, 11), set(2, 12), set(3, 13), l(k, 4, k == JUMP ? 5 : 1, k == PICK ? 2 : 0));
+            for (int v = 0; v < 4; v++) {
+                due("KIND " + k + ": KNOWN " + v, y.ahead(5, v, 1), 10 + v);
+                due("KIND " + k + ": TAINTED " + v, y.ahead(5, v, 0), 0);
+            }
+            due("KIND " + k + ": x", y.ahead(5, 4, 1), k == SET ? 1 : k == MOVE || k == LOAD ? 11 : NONE);
+            due("KIND " + k + ": TAINTED 5", y.ahead(5, 5, 0), 1);
+        }
+    }
+
     private static void jumpsTell() {
         says("Terms", "(of a JUMP: its y, if x is not KNOWN as 0, and the next one, if x is not KNOWN as not 0)");
         // LINE 2 jumps to LINE 4; LINE 3 jumps away to the end, by a VARIABLE that is KNOWN as 1
@@ -500,9 +559,15 @@ public final class TermBoundariesTest extends BoundaryRows {
         due("all as they were: KNOWN", all.ahead(2, 1, 1), 9);
     }
 
-    /** Of VARIABLE 0 behind the rows: 100 if TAINTED, and what it is KNOWN as. VARIABLE 5 is SECRET. */
+    /**
+     * Of VARIABLE 0 behind the rows: 100 if TAINTED, and what it is KNOWN as. VARIABLE 5 is SECRET; the TABLE has 5 more than
+     * the place, by 16 left over.
+     */
     private static int told(int[]... rows) {
         SecretSteps x = program(32, rows);
+        for (int i = 0; i < 16; i++) {
+            x.table(i, (i + 5) % 16);
+        }
         return 100 * x.ahead(rows.length, 0, 0) + x.ahead(rows.length, 0, 1);
     }
 
@@ -561,8 +626,10 @@ public final class TermBoundariesTest extends BoundaryRows {
 
     private static void loadsAndPicksTold() {
         says("Terms", "LOAD: as y is TAINTED; KNOWN, if y is, as the TABLE has.");
-        due("place 0", told(taint(0), set(1, 0), l(LOAD, 0, 1, 0)), 0);
-        due("place 15", told(set(1, 15), l(LOAD, 0, 1, 0)), 15);
+        due("place 0", told(taint(0), set(1, 0), l(LOAD, 0, 1, 0)), 5);
+        due("place 10", told(set(1, 10), l(LOAD, 0, 1, 0)), 15);
+        due("place 11", told(set(1, 11), l(LOAD, 0, 1, 0)), 0);
+        due("place 15", told(set(1, 15), l(LOAD, 0, 1, 0)), 4);
         due("y KNOWN by none", told(set(0, 3), l(LOAD, 0, 1, 0)), NONE);
         due("y TAINTED", told(set(0, 3), l(LOAD, 0, 5, 0)), 99);
         says("Terms", "PICK: if x is KNOWN: as that which is picked; else TAINTED, if x, y or z is; KNOWN by no number, but if y and z are both KNOWN as one number: as that, not TAINTED.");
@@ -676,6 +743,7 @@ public final class TermBoundariesTest extends BoundaryRows {
     }
 
     public static void main(String[] args) {
+        variables();
         secretOnes();
         starts();
         tableNumbers();
@@ -687,12 +755,14 @@ public final class TermBoundariesTest extends BoundaryRows {
         jumpAndPick();
         whatAKindHas();
         secretsOfARun();
+        orderOfLines();
         endOfARun();
         cutRuns();
         sights();
         partings();
         leaks();
         aheadOfLine0();
+        fromLineToLine();
         jumpsTell();
         numbersTold();
         bitsTold();

@@ -64,9 +64,10 @@ class BoundaryRows {
     }
 
     private static void endSentence() {
-        if (sentences > 0 && rowsOfSentence == 0) {
+        if (!sentence.isEmpty() && rowsOfSentence == 0) {
             fails("nothing is asked of it");
         }
+        sentence = "";
         rowsOfSentence = 0;
     }
 

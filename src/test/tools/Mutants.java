@@ -1,4 +1,6 @@
+import java.io.File;
 import java.io.IOException;
+import java.io.OutputStream;
 import java.nio.file.Files;
 import java.nio.file.Path;
 import java.util.ArrayList;
@@ -9,6 +11,8 @@ import java.util.concurrent.Future;
 import java.util.concurrent.TimeUnit;
 import java.util.regex.Matcher;
 import java.util.regex.Pattern;
+import javax.tools.JavaCompiler;
+import javax.tools.ToolProvider;
 
 /**
  * Changes the program in one place at a time (a number by one, a comparison, a sign, a line left out) and runs the tests of
@@ -19,12 +23,16 @@ public final class Mutants {
     private static final Path PROGRAM = Path.of("src/main/java/SecretSteps.java");
     private static final Path SUPPORT = Path.of("src/test/support");
     private static final String[] TESTS = {"TermBoundariesTest", "TextBoundariesTest", "PromiseBoundariesTest"};
-    private static final int SECONDS = 20;
+    /** One start of the Java machine for all tests of a change. */
+    private static final String ALL_TESTS = "public final class AllTests { public static void main(String[] a) { "
+        + String.join(".main(a); ", TESTS) + ".main(a); } }";
+    private static final int SECONDS = 10;
+    private static final JavaCompiler COMPILER = ToolProvider.getSystemJavaCompiler();
 
     /** What is looked for, and what is put in its place. */
     private static final String[][] CHANGES = {
         {" < ", " <= "}, {" <= ", " < "}, {" >= ", " > "}, {" > ", " >= "}, {" == ", " != "}, {" != ", " == "},
-        {" && ", " || "}, {" || ", " && "}, {" \\+ ", " - "}, {" - ", " + "}, {"\\+\\+;", "--;"}, {"--;", "++;"}, {" & ", " | "}, {" \\| ", " & "},
+        {" && ", " || "}, {" \\|\\| ", " && "}, {" \\+ ", " - "}, {" - ", " + "}, {"\\+\\+;", "--;"}, {"--;", "++;"}, {" & ", " | "}, {" \\| ", " & "},
         {"\\btrue\\b", "false"}, {"\\bfalse\\b", "true"}, {" = [^=;]+;", " = 0;"}, {"\\breturn [^;]+;", "return 0;"}};
 
     private record Mutant(int line, String was, String is, String source) {
@@ -75,12 +83,15 @@ public final class Mutants {
         return ended && p.exitValue() == 0;
     }
 
-    private static void compileTests(Path dir) throws Exception {
-        List<String> command = new ArrayList<>(List.of("javac", "-sourcepath", SUPPORT.toString(), "-d", dir.toString(), PROGRAM.toString()));
-        for (String test : TESTS) {
-            command.add("src/test/java/" + test + ".java");
-        }
-        if (!passes(dir, command.toArray(new String[0]))) {
+    /** What the compiler says of a change that is no Java is of no use. */
+    private static boolean compiles(String... arguments) {
+        return COMPILER.run(null, OutputStream.nullOutputStream(), OutputStream.nullOutputStream(), arguments) == 0;
+    }
+
+    private static void compileTests(Path dir) throws IOException {
+        String all = Files.writeString(dir.resolve("AllTests.java"), ALL_TESTS).toString();
+        String sources = SUPPORT + ":" + Path.of("src/test/java") + ":" + PROGRAM.getParent();
+        if (!compiles("-sourcepath", sources, "-d", dir.toString(), all)) {
             throw new IllegalStateException("the tests can not be compiled");
         }
     }
@@ -90,29 +101,33 @@ public final class Mutants {
         Path dir = Files.createTempDirectory("mutant");
         try {
             Path source = Files.writeString(dir.resolve("SecretSteps.java"), mutant.source());
-            if (!passes(dir, "javac", "-nowarn", "-d", dir.toString(), source.toString())) {
+            if (!compiles("-nowarn", "-d", dir.toString(), source.toString())
+                || !passes(dir, "java", "-XX:TieredStopAtLevel=1", "-XX:+UseSerialGC", "-cp", dir + ":" + tests, "AllTests")) {
                 return null;
-            }
-            for (String test : TESTS) {
-                if (!passes(dir, "java", "-XX:TieredStopAtLevel=1", "-Xshare:auto", "-cp", dir + ":" + tests, test)) {
-                    return null;
-                }
             }
             return mutant.line() + ": " + mutant.was() + "\n     " + mutant.is();
         } finally {
-            for (java.io.File f : dir.toFile().listFiles()) {
-                f.delete();
-            }
-            Files.deleteIfExists(dir);
+            remove(dir);
         }
+    }
+
+    private static void remove(Path dir) throws IOException {
+        for (File f : dir.toFile().listFiles()) {
+            f.delete();
+        }
+        Files.deleteIfExists(dir);
     }
 
     public static void main(String[] args) throws Exception {
         Path tests = Files.createTempDirectory("tests");
         compileTests(tests);
+        List<String> lines = Files.readAllLines(PROGRAM);
+        if (verdict(new Mutant(0, "", "", String.join("\n", lines)), tests) == null) {
+            throw new IllegalStateException("the tests fail as it is");
+        }
         ExecutorService pool = Executors.newFixedThreadPool(Runtime.getRuntime().availableProcessors());
         List<Future<String>> verdicts = new ArrayList<>();
-        for (Mutant mutant : mutants(Files.readAllLines(PROGRAM))) {
+        for (Mutant mutant : mutants(lines)) {
             verdicts.add(pool.submit(() -> verdict(mutant, tests)));
         }
         int unseen = 0;
@@ -123,6 +138,7 @@ public final class Mutants {
             }
         }
         pool.shutdown();
+        remove(tests);
         System.out.println(verdicts.size() + " changes, " + unseen + " that no test sees");
     }
 }
