@@ -35,6 +35,9 @@ public final class Mutants {
         {" && ", " || "}, {" \\|\\| ", " && "}, {" \\+ ", " - "}, {" - ", " + "}, {"\\+\\+;", "--;"}, {"--;", "++;"}, {" & ", " | "}, {" \\| ", " & "},
         {"\\btrue\\b", "false"}, {"\\bfalse\\b", "true"}, {" = [^=;]+;", " = 0;"}, {"\\breturn [^;]+;", "return 0;"}};
 
+    /** A change that is no Java, or that makes a test run on and on, says nothing of what the tests look at. */
+    private enum Verdict { NO_JAVA, WRONG_ANSWER, NO_END, UNSEEN }
+
     private record Mutant(int line, String was, String is, String source) {
     }
 
@@ -74,13 +77,14 @@ public final class Mutants {
         all.add(new Mutant(i + 1, lines.get(i).trim(), changed.trim(), String.join("\n", copy) + "\n"));
     }
 
-    private static boolean passes(Path dir, String... command) throws IOException, InterruptedException {
-        Process p = new ProcessBuilder(command).redirectErrorStream(true).redirectOutput(dir.resolve("out").toFile()).start();
-        boolean ended = p.waitFor(SECONDS, TimeUnit.SECONDS);
-        if (!ended) {
+    private static Verdict tested(Path dir, Path tests) throws IOException, InterruptedException {
+        Process p = new ProcessBuilder("java", "-XX:TieredStopAtLevel=1", "-XX:+UseSerialGC", "-cp", dir + ":" + tests, "AllTests")
+            .redirectErrorStream(true).redirectOutput(dir.resolve("out").toFile()).start();
+        if (!p.waitFor(SECONDS, TimeUnit.SECONDS)) {
             p.destroyForcibly().waitFor();
+            return Verdict.NO_END;
         }
-        return ended && p.exitValue() == 0;
+        return p.exitValue() == 0 ? Verdict.UNSEEN : Verdict.WRONG_ANSWER;
     }
 
     /** What the compiler says of a change that is no Java is of no use. */
@@ -96,16 +100,11 @@ public final class Mutants {
         }
     }
 
-    /** null: seen by a test; else what to say of it. */
-    private static String verdict(Mutant mutant, Path tests) throws Exception {
+    private static Verdict verdict(String program, Path tests) throws IOException, InterruptedException {
         Path dir = Files.createTempDirectory("mutant");
         try {
-            Path source = Files.writeString(dir.resolve("SecretSteps.java"), mutant.source());
-            if (!compiles("-nowarn", "-d", dir.toString(), source.toString())
-                || !passes(dir, "java", "-XX:TieredStopAtLevel=1", "-XX:+UseSerialGC", "-cp", dir + ":" + tests, "AllTests")) {
-                return null;
-            }
-            return mutant.line() + ": " + mutant.was() + "\n     " + mutant.is();
+            Path source = Files.writeString(dir.resolve("SecretSteps.java"), program);
+            return compiles("-nowarn", "-d", dir.toString(), source.toString()) ? tested(dir, tests) : Verdict.NO_JAVA;
         } finally {
             remove(dir);
         }
@@ -122,23 +121,28 @@ public final class Mutants {
         Path tests = Files.createTempDirectory("tests");
         compileTests(tests);
         List<String> lines = Files.readAllLines(PROGRAM);
-        if (verdict(new Mutant(0, "", "", String.join("\n", lines)), tests) == null) {
+        if (verdict(String.join("\n", lines), tests) != Verdict.UNSEEN) {
             throw new IllegalStateException("the tests fail as it is");
         }
         ExecutorService pool = Executors.newFixedThreadPool(Runtime.getRuntime().availableProcessors());
-        List<Future<String>> verdicts = new ArrayList<>();
-        for (Mutant mutant : mutants(lines)) {
-            verdicts.add(pool.submit(() -> verdict(mutant, tests)));
+        List<Mutant> mutants = mutants(lines);
+        List<Future<Verdict>> verdicts = new ArrayList<>();
+        for (Mutant mutant : mutants) {
+            verdicts.add(pool.submit(() -> verdict(mutant.source(), tests)));
         }
-        int unseen = 0;
-        for (Future<String> v : verdicts) {
-            if (v.get() != null) {
-                unseen++;
-                System.out.println(v.get());
+        int[] counts = new int[Verdict.values().length];
+        for (int i = 0; i < mutants.size(); i++) {
+            Verdict v = verdicts.get(i).get();
+            counts[v.ordinal()]++;
+            if (v == Verdict.UNSEEN || v == Verdict.NO_END) {
+                Mutant m = mutants.get(i);
+                System.out.println(v + " " + m.line() + ": " + m.was() + "\n     " + m.is());
             }
         }
         pool.shutdown();
         remove(tests);
-        System.out.println(verdicts.size() + " changes, " + unseen + " that no test sees");
+        for (Verdict v : Verdict.values()) {
+            System.out.println(v + ": " + counts[v.ordinal()] + " of " + mutants.size());
+        }
     }
 }
