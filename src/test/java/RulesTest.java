@@ -1,17 +1,21 @@
 import java.lang.management.ManagementFactory;
 import java.lang.reflect.Field;
+import java.lang.reflect.InvocationTargetException;
 import java.lang.reflect.Method;
 import java.lang.reflect.Modifier;
 import java.nio.file.Files;
 import java.nio.file.Path;
 import java.util.ArrayList;
+import java.util.Arrays;
+import java.util.Comparator;
 import java.util.List;
+import java.util.Random;
 import java.util.Set;
 import java.util.TreeSet;
 import java.util.regex.Matcher;
 import java.util.regex.Pattern;
 
-/** What of LANGUAGE.md can be looked at by a program: the face, words that may not stand, and that calls make no objects. */
+/** What of LANGUAGE.md can be looked at by a program: the face, words that may not stand, and that calls make no objects; that none throws. */
 public final class RulesTest {
     private static final Set<String> FACE = new TreeSet<>(List.of(
         "int line(int,int,int,int)", "int drops(int)", "int table(int,int)", "int start(int,int)", "int secret(int,int)",
@@ -154,10 +158,39 @@ public final class RulesTest {
         holds(made < 40000, "an object is small: bytes " + made);
     }
 
+    private static final int[] WILD = {Integer.MIN_VALUE, -16, -1, 20, 21, 32, 127, 128, 255, 256, 1 << 16, Integer.MAX_VALUE};
+
+    /** Rule 7: no call throws, for any arguments in any state, far behind the 512th call, too. */
+    private static void noCallThrows() throws Exception {
+        Random random = new Random(7);
+        List<Method> calls = new ArrayList<>();
+        for (Method m : SecretSteps.class.getDeclaredMethods()) {
+            if (Modifier.isPublic(m.getModifiers())) {
+                calls.add(m);
+            }
+        }
+        calls.sort(Comparator.comparing(Method::getName));
+        SecretSteps x = new SecretSteps();
+        for (int n = 0; n < 30000; n++) {
+            Method m = calls.get(random.nextInt(calls.size()));
+            Object[] numbers = new Object[m.getParameterCount()];
+            for (int i = 0; i < numbers.length; i++) {
+                numbers[i] = random.nextInt(8) == 0 ? WILD[random.nextInt(WILD.length)] : random.nextInt(random.nextBoolean() ? 2 : 7);
+            }
+            try {
+                m.invoke(x, numbers);
+            } catch (InvocationTargetException thrown) {
+                holds(false, "call " + n + ", " + signature(m) + " does not throw: " + Arrays.toString(numbers) + " " + thrown.getCause());
+                return;
+            }
+        }
+    }
+
     public static void main(String[] args) throws Exception {
         face();
         words();
         room();
+        noCallThrows();
         System.out.println("RulesTest: " + wrong + " wrong");
         if (wrong != 0) {
             System.exit(1);
