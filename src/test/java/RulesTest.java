@@ -160,7 +160,7 @@ public final class RulesTest {
 
     private static final int[] WILD = {Integer.MIN_VALUE, -16, -1, 20, 21, 32, 127, 128, 255, 256, 1 << 16, Integer.MAX_VALUE};
 
-    /** Rule 7: no call throws, for any arguments in any state, far behind the 512th call, too. */
+    /** Rule 7, as far as drawn calls can tell: none throws, far behind the 512th call, too. */
     private static void noCallThrows() throws Exception {
         Random random = new Random(7);
         List<Method> calls = new ArrayList<>();
